@@ -514,7 +514,7 @@ public final class PoolAssembler {
             return ended;
         }
 
-        /** The five highest bits tell the instructions apart, but for those that share 3, 8 and 23. */
+        /** The five highest bits tell the instructions apart; where not all that share them are made, more is asked. */
         private int perform(int half) {
             switch (half >> 11) {
                 case HALF_ADD >> 11:
