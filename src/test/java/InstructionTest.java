@@ -95,7 +95,8 @@ public final class InstructionTest {
     /** LOW + LOW sets Z, C and V; what follows may change N and Z alone, or nothing. */
     private static void flagsThatStay() {
         int[][] table = {{1, 4, 7, 0, C + V}, {1, 4, 0, 0, Z + C + V}, {7, 4, 1, 12, N + C + V},
-            {7, 4, 1, 0, Z + C + V}, {7, 4, 1, 1, N + C + V}, {7, 4, 4, 13, Z + C + V}, {7, 4, 1, 14, Z + C + V}, {7, 4, 4, 15, N + C + V},
+            {7, 4, 1, 0, Z + C + V}, {7, 4, 1, 1, N + C + V}, {7, 4, 4, 13, Z + C + V}, {7, 4, 1, 14, Z + C + V},
+            {7, 4, 4, 15, N + C + V},
             {10, 4, -7, 0, Z + C + V}, {8, 1, 6, 0, Z + C + V}, {9, 4, 6, 0, Z + C + V}, {13, 2, 0, 0, Z + C + V},
             {11, 0, 0, 0, Z + C + V}, {12, 0, 0, 0, Z + C + V}, {12, 0, 0, 1, Z + C + V}, {15, 0, 0, 0, Z + C + V}};
         for (int[] row : table) {
