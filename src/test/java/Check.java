@@ -1,18 +1,26 @@
 /** What the tests share: it counts wrong answers and ends the test with exit code 1 if there was one. */
 final class Check {
+    static final int LOW = Integer.MIN_VALUE;
+    static final int HIGH = Integer.MAX_VALUE;
+
     private static int asked = 0;
     private static int wrong = 0;
+    private static String sentence = "";
 
     /** A call that may throw. */
     interface Call {
         long answer();
     }
 
+    /** The words of the document that the answers from here on are due by; told with each wrong answer. */
+    static void sentence(String words) {
+        sentence = words;
+    }
+
     static void due(String what, long want, long got) {
         asked++;
         if (got != want) {
-            wrong++;
-            System.out.println(what + " answered " + got + ", due is " + want);
+            tellWrong(what + " answered " + got + ", due is " + want);
         }
     }
 
@@ -27,8 +35,12 @@ final class Check {
             }
             got = "threw " + e.getClass().getName();
         }
+        tellWrong(what + " " + got + ", due is " + want.getName());
+    }
+
+    private static void tellWrong(String what) {
         wrong++;
-        System.out.println(what + " " + got + ", due is " + want.getName());
+        System.out.println((sentence.isEmpty() ? "" : "\"" + sentence + "\": ") + what);
     }
 
     static void dueHalves(String what, PoolAssembler x, int... want) {
@@ -39,10 +51,49 @@ final class Check {
         due(what + ": half behind the end", 0, x.half(want.length));
     }
 
+    /** All that the face shows of an object, but for its source and whether its run has ended. */
+    static String seen(PoolAssembler x) {
+        StringBuilder text = new StringBuilder("refused " + x.refused() + ", " + x.pools() + " pools, halves");
+        for (int k = 0; k < x.size(); k++) {
+            text.append(' ').append(x.half(k));
+        }
+        return text + ", " + seenOfProcessor(x);
+    }
+
+    static String seenOfProcessor(PoolAssembler x) {
+        StringBuilder text = new StringBuilder("registers");
+        for (int r = 0; r <= 9; r++) {
+            text.append(' ').append(x.register(r));
+        }
+        text.append(", data");
+        for (int k = 0; k < 32; k++) {
+            text.append(' ').append(x.data(k));
+        }
+        return text.toString();
+    }
+
+    static void dueSeen(String what, String want, String got) {
+        asked++;
+        if (!got.equals(want)) {
+            tellWrong(what + ": seen is " + got + ", due is " + want);
+        }
+    }
+
+    static void dueBeginning(String what, PoolAssembler x) {
+        dueSeen(what, seenOfProcessor(new PoolAssembler()), seenOfProcessor(x));
+    }
+
     /** A new object with these lines, four numbers each. */
     static PoolAssembler source(int... numbers) {
         PoolAssembler x = new PoolAssembler();
         add(x, numbers);
+        return x;
+    }
+
+    /** The same, assembled. */
+    static PoolAssembler made(int... numbers) {
+        PoolAssembler x = source(numbers);
+        x.assemble();
         return x;
     }
 

@@ -1,13 +1,19 @@
 /** Promises 9 and 11: what each instruction does to registers and flags, and when branches go. */
 public final class InstructionTest {
-    private static final int LOW = Integer.MIN_VALUE;
-    private static final int HIGH = Integer.MAX_VALUE;
+    private static final int LOW = Check.LOW;
+    private static final int HIGH = Check.HIGH;
     private static final int N = 8;
     private static final int Z = 4;
     private static final int C = 2;
     private static final int V = 1;
 
     public static void main(String[] args) {
+        signAndZero();
+        carryOfSums();
+        carryOfDifferences();
+        overflowOfSums();
+        overflowOfDifferences();
+        lowestBitsOfProducts();
         sums();
         differences();
         smallNumbers();
@@ -33,7 +39,67 @@ public final class InstructionTest {
         Check.due(what + ": flags", flags, p.register(9));
     }
 
+    private static void signAndZero() {
+        Check.sentence("N is the result's sign, Z whether it is 0.");
+        due("-1", after(-2, 1, 5, 3, 1, 2), 3, -1, N);
+        due("0", after(0, 0, 5, 3, 1, 2), 3, 0, Z);
+        due("1", after(0, 1, 5, 3, 1, 2), 3, 1, 0);
+        due("the lowest", after(LOW, 0, 5, 3, 1, 2), 3, LOW, N);
+        due("the highest", after(HIGH, 0, 5, 3, 1, 2), 3, HIGH, 0);
+    }
+
+    private static void carryOfSums() {
+        Check.sentence("C when a sum of unsigned numbers goes beyond 32 bits");
+        due("the highest of 32 bits and 0", after(-1, 0, 5, 3, 1, 2), 3, -1, N);
+        due("the highest of 32 bits and 1", after(-1, 1, 5, 3, 1, 2), 3, 0, Z + C);
+        due("up to the highest", after(-256, 0, 3, 1, 255, 0), 1, -1, N);
+        due("one beyond the highest", after(-255, 0, 3, 1, 255, 0), 1, 0, Z + C);
+        due("the highest twice", after(-1, -1, 5, 3, 1, 2), 3, -2, N + C);
+    }
+
+    private static void carryOfDifferences() {
+        Check.sentence("or when in a difference of unsigned numbers the first is not below the second");
+        due("one below", after(4, 5, 6, 3, 1, 2), 3, -1, N);
+        due("equal", after(5, 5, 6, 3, 1, 2), 3, 0, Z + C);
+        due("one above", after(6, 5, 6, 3, 1, 2), 3, 1, C);
+        due("a small number one above", after(254, 0, 4, 1, 255, 0), 1, -1, N);
+        due("a small number equal", after(255, 0, 4, 1, 255, 0), 1, 0, Z + C);
+        due("the highest bit is a number's, no sign", after(LOW, HIGH, 7, 1, 2, 10), 1, LOW, C + V);
+        due("the highest bit is a number's, no sign", after(HIGH, LOW, 7, 1, 2, 10), 1, HIGH, N + V);
+        due("0 less the highest of 32 bits", after(0, -1, 6, 3, 1, 2), 3, 1, 0);
+    }
+
+    private static void overflowOfSums() {
+        Check.sentence("V when the signed result is none of 32 bits");
+        due("up to the highest", after(HIGH - 255, 0, 3, 1, 255, 0), 1, HIGH, 0);
+        due("one beyond the highest", after(HIGH - 254, 0, 3, 1, 255, 0), 1, LOW, N + V);
+        due("down to the lowest", after(LOW + 1, -1, 5, 3, 1, 2), 3, LOW, N + C);
+        due("one beyond the lowest", after(LOW, -1, 5, 3, 1, 2), 3, HIGH, C + V);
+    }
+
+    private static void overflowOfDifferences() {
+        Check.sentence("V when the signed result is none of 32 bits");
+        due("down to the lowest", after(LOW + 255, 0, 4, 1, 255, 0), 1, LOW, N + C);
+        due("one beyond the lowest", after(LOW + 254, 0, 4, 1, 255, 0), 1, HIGH, C + V);
+        due("up to the highest", after(-1, LOW, 6, 3, 1, 2), 3, HIGH, C);
+        due("one beyond the highest", after(0, LOW, 6, 3, 1, 2), 3, LOW, N + V);
+        due("COMPARE, down to the lowest", after(LOW + 255, 0, 2, 1, 255, 0), 1, LOW + 255, N + C);
+        due("COMPARE, one beyond the lowest", after(LOW + 254, 0, 2, 1, 255, 0), 1, LOW + 254, C + V);
+    }
+
+    private static void lowestBitsOfProducts() {
+        Check.sentence("MULTIPLY: the lowest 32 bits");
+        due("up to the highest", after(HIGH / 7, 7, 7, 1, 2, 13), 1, HIGH - 1, 0);
+        due("beyond the highest", after(65536, 32768, 7, 1, 2, 13), 1, LOW, N);
+        due("beyond 32 bits", after(65536, 65536, 7, 1, 2, 13), 1, 0, Z);
+        due("beyond 32 bits by 1", after(65537, 65536, 7, 1, 2, 13), 1, 65536, 0);
+        due("the lowest and -1", after(LOW, -1, 7, 1, 2, 13), 1, LOW, N);
+        due("the highest twice", after(HIGH, HIGH, 7, 1, 2, 13), 1, 1, 0);
+        due("-1 twice", after(-1, -1, 7, 1, 2, 13), 1, 1, 0);
+    }
+
     private static void sums() {
+        Check.sentence("ADD, TAKE and COMPARE set C and V, too");
         int[][] table = {{1, 2, 3, 0}, {0, 0, 0, Z}, {-1, 1, 0, Z + C}, {-1, -1, -2, N + C}, {HIGH, 1, LOW, N + V},
             {LOW, LOW, 0, Z + C + V}, {LOW, -1, HIGH, C + V}, {HIGH, HIGH, -2, N + V}, {LOW, HIGH, -1, N},
             {-5, 5, 0, Z + C}, {-5, 4, -1, N}, {HIGH, LOW, -1, N}};
@@ -43,6 +109,7 @@ public final class InstructionTest {
     }
 
     private static void differences() {
+        Check.sentence("TAKE a, b, c is b - c. COMPARE sets flags by a - b.");
         int[][] table = {{3, 2, 1, C}, {2, 3, -1, N}, {0, 0, 0, Z + C}, {LOW, 1, HIGH, C + V}, {HIGH, -1, LOW, N + V},
             {0, LOW, LOW, N + V}, {-1, LOW, HIGH, C}, {LOW, LOW, 0, Z + C}, {-1, 1, -2, N + C}, {1, -1, 2, 0},
             {HIGH, LOW, -1, N + V}, {LOW, HIGH, 1, C + V}, {0, 1, -1, N}};
@@ -56,6 +123,7 @@ public final class InstructionTest {
     }
 
     private static void smallNumbers() {
+        Check.sentence("The results of MOVE, ADD, TAKE and of line 7 but COMPARE go into register a");
         due("MOVE 0", after(9, 0, 1, 1, 0, 0), 1, 0, Z);
         due("MOVE 255", after(9, 0, 1, 1, 255, 0), 1, 255, 0);
         due("ADD 1", after(-1, 0, 3, 1, 1, 0), 1, 0, Z + C);
@@ -72,6 +140,7 @@ public final class InstructionTest {
     }
 
     private static void works() {
+        Check.sentence("Line 7 has a and b");
         due("AND", after(0b1100, 0b1010, 7, 1, 2, 0), 1, 0b1000, 0);
         due("AND", after(0b0100, 0b1010, 7, 1, 2, 0), 1, 0, Z);
         due("AND", after(-1, LOW, 7, 1, 2, 0), 1, LOW, N);
@@ -94,6 +163,7 @@ public final class InstructionTest {
 
     /** LOW + LOW sets Z, C and V; what follows may change N and Z alone, or nothing. */
     private static void flagsThatStay() {
+        Check.sentence("ADD, TAKE and COMPARE set C and V, too");
         int[][] table = {{1, 4, 7, 0, C + V}, {1, 4, 0, 0, Z + C + V}, {7, 4, 1, 12, N + C + V},
             {7, 4, 1, 0, Z + C + V}, {7, 4, 1, 1, N + C + V}, {7, 4, 4, 13, Z + C + V}, {7, 4, 1, 14, Z + C + V},
             {7, 4, 4, 15, N + C + V},
@@ -109,6 +179,7 @@ public final class InstructionTest {
     }
 
     private static void registersThatAreTheSame() {
+        Check.sentence("The results of MOVE, ADD, TAKE and of line 7 but COMPARE go into register a");
         due("ADD 1, 1, 1", after(5, 0, 5, 1, 1, 1), 1, 10, 0);
         due("TAKE 1, 1, 1", after(5, 0, 6, 1, 1, 1), 1, 0, Z + C);
         due("TAKE 2, 1, 2", after(5, 3, 6, 2, 1, 2), 2, 2, C);
@@ -138,6 +209,7 @@ public final class InstructionTest {
 
     /** Each pair compared, then each branch: C is that x is not below y, unsigned; LESS and GREATER are signed. */
     private static void conditions() {
+        Check.sentence("CARRY is C; MINUS is N; EQUAL is Z; LESS is that N is unlike V; GREATER is neither Z nor LESS");
         int[] values = {0, 1, -1, LOW, HIGH, 77, -77, LOW + 1};
         for (int x : values) {
             for (int y : values) {
@@ -166,6 +238,7 @@ public final class InstructionTest {
     }
 
     private static void countingDown() {
+        Check.sentence("Done is the half at the place, then the place is the next half's, but for branches.");
         PoolAssembler p = Check.source(1, 0, 100, 0, 0, 3, 0, 0, 5, 1, 1, 0, 4, 0, 1, 0, 12, 3, 0, 1, 15, 0, 0, 0);
         p.assemble();
         Check.due("301 instructions", 0, p.run(301));

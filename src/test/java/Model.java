@@ -99,6 +99,12 @@ final class Model {
         return image.length;
     }
 
+    /** An image that no source made. */
+    void take(int... made) {
+        image = made;
+        restart();
+    }
+
     private void place(int i) {
         Row row = source.get(i);
         if (row.kind == 14) {
