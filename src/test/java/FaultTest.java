@@ -120,7 +120,8 @@ public final class FaultTest {
     private static void halvesThatNoLineMakes() throws ReflectiveOperationException {
         Check.sentence("a half that no line makes");
         int[][] made = {{6144, 7167}, {8192, 16384 + 127}, {16384 + 640, 16384 + 703}, {16384 + 768, 16384 + 1023},
-            {NOTHING, NOTHING}, {HALT, HALT}, {53248, 53248 + 1535}, {53248 + 2560, 53248 + 3583}, {57344, 57344 + 2047}};
+            {NOTHING, NOTHING}, {HALT, HALT}, {53248, 53248 + 1535}, {53248 + 2560, 53248 + 3583},
+            {57344, 57344 + 2047}};
         for (int[] row : made) {
             for (int half : row) {
                 Check.due("half " + half, half == HALT ? 1 : 0, withImage(half).run(1));

@@ -102,7 +102,7 @@ public final class InstructionTest {
         Check.sentence("ADD, TAKE and COMPARE set C and V, too");
         int[][] table = {{1, 2, 3, 0}, {0, 0, 0, Z}, {-1, 1, 0, Z + C}, {-1, -1, -2, N + C}, {HIGH, 1, LOW, N + V},
             {LOW, LOW, 0, Z + C + V}, {LOW, -1, HIGH, C + V}, {HIGH, HIGH, -2, N + V}, {LOW, HIGH, -1, N},
-            {-5, 5, 0, Z + C}, {-5, 4, -1, N}, {HIGH, LOW, -1, N}};
+            {-5, 5, 0, Z + C}, {-5, 4, -1, N}, {HIGH, LOW, -1, N}, {0x55555555, 0x55555555, 0xAAAAAAAA, N + V}};
         for (int[] row : table) {
             due(row[0] + " + " + row[1], after(row[0], row[1], 5, 3, 1, 2), 3, row[2], row[3]);
         }
@@ -112,7 +112,7 @@ public final class InstructionTest {
         Check.sentence("TAKE a, b, c is b - c. COMPARE sets flags by a - b.");
         int[][] table = {{3, 2, 1, C}, {2, 3, -1, N}, {0, 0, 0, Z + C}, {LOW, 1, HIGH, C + V}, {HIGH, -1, LOW, N + V},
             {0, LOW, LOW, N + V}, {-1, LOW, HIGH, C}, {LOW, LOW, 0, Z + C}, {-1, 1, -2, N + C}, {1, -1, 2, 0},
-            {HIGH, LOW, -1, N + V}, {LOW, HIGH, 1, C + V}, {0, 1, -1, N}};
+            {HIGH, LOW, -1, N + V}, {LOW, HIGH, 1, C + V}, {0, 1, -1, N}, {0xAAAAAAAA, 0x55555555, 0x55555555, C + V}};
         for (int[] row : table) {
             String what = row[0] + " - " + row[1];
             due(what, after(row[0], row[1], 6, 3, 1, 2), 3, row[2], row[3]);

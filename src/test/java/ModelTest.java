@@ -1,6 +1,9 @@
 import java.util.Random;
 
-/** Many runs of calls from a fixed seed, each call answered by PoolAssembler and by Model. */
+/**
+ * Many runs of calls from a fixed seed, each call answered by PoolAssembler and by Model. A big image is looked at half
+ * by half, which takes more calls than the 512 of the document: this class answers them all the same.
+ */
 public final class ModelTest {
     private static final int[] WORKS = {0, 1, 10, 12, 13, 14, 15};
     private static final int[] CONDITIONS = {0, 1, 2, 3, 4, 5, 10, 11, 12, 13};
