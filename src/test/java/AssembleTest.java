@@ -2,7 +2,8 @@
 public final class AssembleTest {
     public static void main(String[] args) {
         halvesOfEveryKind();
-        spaceAndLinesWithoutHalves();
+        spaces();
+        linesWithoutHalves();
         ofAnEmptySource();
         ofAFullSource();
         theImageIsMadeAnew();
@@ -57,7 +58,7 @@ public final class AssembleTest {
         half("HALT", 0xBE00, 15, 5, 6, 7);
     }
 
-    private static void spaceAndLinesWithoutHalves() {
+    private static void spaces() {
         Check.sentence("13: a halves 18112 (NOTHING)");
         for (int many : new int[] {1, 2, 39, 40}) {
             PoolAssembler x = Check.source(1, 0, 0, 0, 13, many, 0, 0, 15, 0, 0, 0);
@@ -67,6 +68,9 @@ public final class AssembleTest {
             }
             Check.due("behind the SPACE", (short) 0xBE00, x.half(many + 1));
         }
+    }
+
+    private static void linesWithoutHalves() {
         Check.sentence("0 and 14 make none.");
         PoolAssembler x = Check.made(14, 0, 0, 0, 13, 3, 0, 0, 0, 4, 0, 0, 15, 0, 0, 0, 14, 0, 0, 0, 0, 5, 0, 0);
         Check.dueHalves("labels and pools between", x, 18112, 18112, 18112, 48640);

@@ -5,7 +5,8 @@ public final class LabelTest {
 
     public static void main(String[] args) {
         branchesOfBothKinds();
-        stepsAroundTheBranch();
+        stepsAroundABranch();
+        stepsAroundABranchIf();
         labelsBeforeEveryKind();
         labelsBeforeLinesWithoutHalves();
         labelsBeforeAPoolAtALine();
@@ -34,12 +35,15 @@ public final class LabelTest {
         Check.dueHalves("branches", x, 0xE002, 0xDDFE, 0xD0FD, 0xDB01, 0xE7FF, 0xE7FA);
     }
 
-    private static void stepsAroundTheBranch() {
+    private static void stepsAroundABranch() {
         Check.sentence("11: 57344 + the lowest 11 bits of S.");
         Check.dueHalves("to itself", Check.made(0, 0, 0, 0, 11, 0, 0, 0), 0xE7FE);
         Check.dueHalves("to the next", Check.made(11, 0, 0, 0, 0, 0, 0, 0, 15, 0, 0, 0), 0xE7FF, HALT);
         Check.dueHalves("over one", Check.made(11, 0, 0, 0, 13, 1, 0, 0, 0, 0, 0, 0, 15, 0, 0, 0),
             0xE000, NOTHING, HALT);
+    }
+
+    private static void stepsAroundABranchIf() {
         Check.sentence("12: 53248 + 256 * c + the lowest 8 bits of S.");
         Check.dueHalves("to itself", Check.made(0, 0, 0, 0, 12, 0, 0, 5), 0xD5FE);
         Check.dueHalves("to the next", Check.made(12, 0, 0, 10, 0, 0, 0, 0, 15, 0, 0, 0), 0xDAFF, HALT);
