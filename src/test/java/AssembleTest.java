@@ -8,6 +8,7 @@ public final class AssembleTest {
         ofAFullSource();
         theImageIsMadeAnew();
         halvesThatAreNone();
+        sizeInEveryState();
         theProcessorIsAtItsBeginning();
         whatARefusedSourceLeaves();
         Check.end();
@@ -141,6 +142,28 @@ public final class AssembleTest {
         for (int k : new int[] {-1, 3, 4, -2, -3, -65536, 65536, 65538, Check.LOW, Check.LOW + 1, Check.HIGH}) {
             Check.due("half(" + k + ")", 0, x.half(k));
         }
+    }
+
+    private static void sizeInEveryState() {
+        Check.sentence("How many halves the image has.");
+        PoolAssembler x = new PoolAssembler();
+        Check.due("of a new object", 0, x.size());
+        Check.add(x, 13, 40, 0, 0, 10, 0, 1, 0, 15, 0, 0, 0);
+        Check.due("with lines", 0, x.size());
+        x.assemble();
+        Check.due("behind assemble, with the pool", 44, x.size());
+        x.line(11, 0, 0, 0);
+        Check.due("with a line more", 44, x.size());
+        Check.refuses("no label", x, 3);
+        Check.due("behind a refused assemble", 44, x.size());
+        x.run(5000);
+        Check.due("behind run", 44, x.size());
+        x.restart();
+        Check.due("behind restart", 44, x.size());
+        x.clear();
+        Check.due("behind clear", 44, x.size());
+        x.assemble();
+        Check.due("of no lines", 0, x.size());
     }
 
     /** A run that is under way, one that halted and one with a fault: each begins anew with the next image. */

@@ -21,6 +21,10 @@ public final class InstructionTest {
         flagsThatStay();
         registersThatAreTheSame();
         conditions();
+        storesAndLoads();
+        constants();
+        branches();
+        branchesToTheFarthest();
         countingDown();
         Check.end();
     }
@@ -235,6 +239,76 @@ public final class InstructionTest {
         p.assemble();
         Check.due("run", 1, p.run(9));
         Check.due(x + " to " + y + " by condition " + condition, goes ? 10 : 8, p.register(8));
+    }
+
+    /** Every c, to the first word, to the one at 4096 + 4 * c, and to the last. */
+    private static void storesAndLoads() {
+        Check.sentence("STORE puts register a to the address (register b) + 4 * c, LOAD gets it from there.");
+        for (int c = 0; c <= 31; c++) {
+            for (int word : new int[] {0, c, 31}) {
+                PoolAssembler p = Check.made(10, 3, 4096 + 4 * word - 4 * c, 0, 10, 1, -5 - c, 0,
+                    8, 1, 3, c, 9, 2, 3, c, 15, 0, 0, 0);
+                Check.due("run", 1, p.run(9));
+                due("word " + word + " by c " + c, p, 2, -5 - c, 0);
+                Check.due("register a stays", -5 - c, p.register(1));
+                Check.due("register b stays", 4096 + 4 * word - 4 * c, p.register(3));
+                Check.due("the word", -5 - c, p.data(word));
+            }
+        }
+        PoolAssembler over = Check.made(10, 3, 4096, 0, 10, 1, -5, 0, 8, 1, 3, 7, 8, 3, 3, 7, 9, 1, 3, 7, 15, 0, 0, 0);
+        Check.due("run", 1, over.run(9));
+        Check.due("a word that is put again", 4096, over.data(7));
+        Check.due("and loaded", 4096, over.register(1));
+    }
+
+    /** The nearest and the farthest word that a CONSTANT can get, from both kinds of addresses. */
+    private static void constants() {
+        Check.sentence("CONSTANT gets the word at its BASE + 4 * W of the image.");
+        for (int before = 0; before <= 1; before++) {
+            for (int between : new int[] {0, 1, 2, 3, 509, 510}) {
+                PoolAssembler p = new PoolAssembler();
+                Check.space(p, before);
+                p.line(10, 6, 0x89ABCDEF, 0);
+                Check.space(p, between);
+                Check.add(p, 14, 0, 0, 0, 15, 0, 0, 0);
+                p.assemble();
+                Check.due("a pool", 1, p.pools());
+                Check.due("run", 1, p.run(2000));
+                due("a constant over " + between + " halves", p, 6, 0x89ABCDEF, 0);
+                Check.due("the place, at the last half", 2 * p.size() - 2, p.register(8));
+            }
+        }
+    }
+
+    private static void branches() {
+        Check.sentence("BRANCH: to its address.");
+        PoolAssembler p = Check.made(11, 2, 0, 0, 0, 1, 0, 0, 11, 1, 0, 0, 0, 2, 0, 0, 11, 3, 0, 0, 0, 3, 0, 0,
+            11, 1, 0, 0);
+        int[] places = {4, 6, 2, 2, 2};
+        for (int place : places) {
+            Check.due("run", 0, p.run(1));
+            Check.due("the place", place, p.register(8));
+        }
+    }
+
+    /** To the farthest address forward, and from there to the farthest backward. */
+    private static void branchesToTheFarthest() {
+        Check.sentence("BRANCH: to its address.");
+        int[][] table = {{11, 0, 1023, 1022}, {12, 1, 127, 126}};
+        for (int[] row : table) {
+            PoolAssembler p = Check.source(row[0], 0, 0, row[1]);
+            Check.space(p, row[2]);
+            Check.add(p, 13, 1, 0, 0, 0, 0, 0, 0, 15, 0, 0, 0);
+            p.assemble();
+            Check.due("kind " + row[0] + " forward", 1, p.run(2));
+            Check.due("the place", 4 + 2 * row[2], p.register(8));
+            PoolAssembler back = Check.source(11, 1, 0, 0, 0, 0, 0, 0, 15, 0, 0, 0);
+            Check.space(back, row[3] - 1);
+            Check.add(back, 0, 1, 0, 0, row[0], 0, 0, row[1]);
+            back.assemble();
+            Check.due("kind " + row[0] + " backward", 1, back.run(3));
+            Check.due("the place", 2, back.register(8));
+        }
     }
 
     private static void countingDown() {

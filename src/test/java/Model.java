@@ -1,13 +1,16 @@
 import java.math.BigInteger;
 import java.util.ArrayList;
 import java.util.HashMap;
+import java.util.HashSet;
 import java.util.LinkedHashSet;
 import java.util.List;
 import java.util.Map;
+import java.util.Set;
 
 /**
- * The document told a second time, for ModelTest: the image is a list of halves that know where they come from, a
- * half is understood by looking it up among all that lines can make, and flags are reckoned with numbers of any size.
+ * The document told a second time, for ModelTest and AnyCallTest: the image is a list of halves that know where they
+ * come from, a half is understood by looking it up among all that lines can make, and flags are reckoned with numbers
+ * of any size.
  */
 final class Model {
     /** One half: its value, the line that made it (-1 for a pool's), and whether it is that line's first. */
@@ -16,6 +19,24 @@ final class Model {
 
     private record Row(int kind, int a, int b, int c) {
     }
+
+    private static final Set<Integer> ANY = Set.of();
+    private static final Set<Integer> REGISTER = range(0, 7);
+    private static final Set<Integer> LABEL = range(0, 15);
+    private static final Set<Integer> SMALL = range(0, 255);
+    private static final Set<Integer> OFFSET = range(0, 31);
+
+    /** What a, b and c may be, kind by kind, as far as it is named. */
+    private static final List<List<Set<Integer>>> NUMBERS = List.of(
+        List.of(LABEL),
+        List.of(REGISTER, SMALL), List.of(REGISTER, SMALL), List.of(REGISTER, SMALL), List.of(REGISTER, SMALL),
+        List.of(REGISTER, REGISTER, REGISTER), List.of(REGISTER, REGISTER, REGISTER),
+        List.of(REGISTER, REGISTER, Set.of(0, 1, 10, 12, 13, 14, 15)),
+        List.of(REGISTER, REGISTER, OFFSET), List.of(REGISTER, REGISTER, OFFSET),
+        List.of(REGISTER),
+        List.of(LABEL), List.of(LABEL, ANY, Set.of(0, 1, 2, 3, 4, 5, 10, 11, 12, 13)),
+        List.of(range(1, 40)),
+        List.of(), List.of());
 
     private static final BigInteger TWO_32 = BigInteger.ONE.shiftLeft(32);
     private static final Map<Integer, Row> MEANINGS = meanings();
@@ -39,6 +60,29 @@ final class Model {
     private List<Integer> waitingLines;
     private Map<Integer, Integer> constantAddresses;
     private int pools;
+
+    /** Whether a line is as said; a and b and c are held against the ranges of their kind. */
+    static boolean isAsSaid(int kind, int a, int b, int c) {
+        if (kind < 0 || kind >= NUMBERS.size()) {
+            return false;
+        }
+        List<Set<Integer>> numbers = NUMBERS.get(kind);
+        int[] row = {a, b, c};
+        for (int i = 0; i < numbers.size(); i++) {
+            if (numbers.get(i) != ANY && !numbers.get(i).contains(row[i])) {
+                return false;
+            }
+        }
+        return true;
+    }
+
+    private static Set<Integer> range(int first, int last) {
+        Set<Integer> numbers = new HashSet<>();
+        for (int n = first; n <= last; n++) {
+            numbers.add(n);
+        }
+        return numbers;
+    }
 
     int line(int kind, int a, int b, int c) {
         source.add(new Row(kind, a, b, c));
